@@ -13,6 +13,8 @@ final class BordersTest {
         setReach();
         setReachErrors();
         zonesAreFoundAnew();
+        zonesOfBothAxes();
+        sixBorders();
         check.end();
     }
 
@@ -219,5 +221,45 @@ final class BordersTest {
         check.due("still below", t.count(4), 0);
         t.setReach(0, 0, 44);
         check.due("at the position is above", t.count(4), 1);
+    }
+
+    private static void zonesOfBothAxes() {
+        GainTables t = Look.of("x400 50;y600 50;");
+        t.move(300, 700);
+        check.due("zone", t.count(4) * 10 + t.count(5), 1);
+        t.addBorder(0, 200, 0, 0);
+        check.due("each by its own coordinate", t.count(4) * 10 + t.count(5), 11);
+        t.move(380, 560);
+        t.setReach(0, 0, 1);
+        check.due("the other axis anew, too", t.count(4) * 10 + t.count(5), 10);
+        t.move(440, 640);
+        check.due("both stick", t.count(4) * 10 + t.count(5), 10);
+        t.removeBorder(0, 0);
+        check.due("both anew", t.count(4) * 10 + t.count(5), 11);
+    }
+
+    /** A full axis, and what stays in its rooms when it is full no more. */
+    private static void sixBorders() {
+        GainTables t = Look.rich("x100 9;x200 9;x300 9;x400 9;x500 9;x600 9;");
+        for (int column = 0; column <= 6; column++) {
+            check.due("edit", t.edit(0, column, 0, 0, 10 + column), 0);
+            check.due("value", t.valueAt(50 + 100 * column, 0, 0), 10 + column);
+        }
+        check.due("all zones", t.axis(0, 1), 7);
+        check.due("move", t.move(0, 0), 5);
+        check.due("remove the third", t.removeBorder(0, 2), 5);
+        int[] positions = {100, 200, 400, 500, 600, Look.NONE};
+        int[] gains = {10, 11, 12, 14, 15, 16, Look.INVALID};
+        for (int b = 0; b < 6; b++) {
+            check.due("position", t.border(0, b, 0), positions[b]);
+            check.due("gain", t.region(b, 0, 0), gains[b]);
+        }
+        check.due("the sixth again", t.addBorder(0, 900, 1, 100), 5);
+        check.due("move into it", t.move(900, 0), 6);
+        check.due("blends", t.axis(0, 5), 200);
+        check.due("remove the last", t.removeBorder(0, 5), 5);
+        check.due("blends no more", t.axis(0, 5), 1);
+        check.due("strip", t.axis(0, 3), 5);
+        check.due("chatter of what is no more", t.chatter(0, 900, 100, 9), 0);
     }
 }

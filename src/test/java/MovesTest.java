@@ -193,6 +193,15 @@ final class MovesTest {
         check.due("rows", t.sweep(1, 494, 1), 1);
         check.due("rows", t.sweep(1, 504, 1), 0);
         check.due("rows", t.sweep(1, 505, 1), 1);
+        t.move(333, 0);
+        check.due("rows alone", t.sweep(1, 50, 30), 0);
+        for (int back = 0; back < 2; back++) {
+            check.due("the other coordinate stays", t.trail(back, 0), 333);
+            check.due("the coordinate", t.trail(back, 1), 50 - 20 * back);
+        }
+        check.due("columns alone", t.sweep(0, 300, 30), 0);
+        check.due("the other coordinate stays", t.trail(1, 1), 50);
+        check.due("the coordinate", t.trail(1, 0), 303);
     }
 
     private static void sweepErrors() {

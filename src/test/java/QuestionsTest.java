@@ -69,6 +69,13 @@ final class QuestionsTest {
         check.due("a value", blend.effect(555, 500), 9);
         GainTables same = Look.of("x400 50;y600 5;g0 0 0 7;g1 0 0 7;g0 1 0 7;g1 1 0 7;");
         check.due("both zones, no value", same.effect(0, 1000), 7);
+        GainTables asked = Look.of("x400 50;g1 0 2 9;");
+        check.due("asked elsewhere", asked.valueAt(0, 0, 2), 0);
+        check.due("the values ahead are those at the point", asked.effect(600, 500), 1);
+        check.due("asked elsewhere", asked.valueAt(0, 0, 2), 0);
+        check.due("the values ahead are those at the point", asked.effect(0, 500), 11);
+        check.due("asked elsewhere", asked.steepest(1, 2, 0), 0);
+        check.due("the value at the point", asked.gain(2, 0), 9);
     }
 
     private static void effectErrors() {
@@ -208,6 +215,12 @@ final class QuestionsTest {
         check.due("row 1 alone", t.steepest(0, 0, 0), 3);
         check.due("row 1 alone", t.steepest(0, 0, 1), 691);
         check.due("one", t.steepest(1, 0, 0), 1);
+        t.move(0, 1000);
+        check.due("along the columns at the point's row", t.steepest(0, 0, 1), 691);
+        check.due("along the rows at the point's column", t.steepest(1, 0, 0), 100);
+        t.move(1000, 0);
+        check.due("along the columns at the point's row", t.steepest(0, 0, 1), 399);
+        check.due("along the rows at the point's column", t.steepest(1, 0, 0), 1);
         GainTables both = Look.of("x1 0;x999 0;g0 0 2 5;g2 0 2 5;");
         check.due("of several the smallest", both.steepest(0, 2, 1), 0);
         check.due("difference", both.steepest(0, 2, 0), 5);

@@ -3,10 +3,13 @@ final class RandomCalls {
     private static final int[] ODD = {-1, -2, 2, 3, 4, 6, 7, 12, 101, 501, 1000, 1001, 10000, 100000,
         Integer.MIN_VALUE, Integer.MAX_VALUE, Integer.MIN_VALUE + 1, Look.NONE, Look.INVALID};
     private long seed;
+    private final boolean writesTexts;
+    private int made = 0;
     private String pending = "";
 
     RandomCalls(long seed) {
         this.seed = seed * 0x9E3779B97F4A7C15L + 1;
+        writesTexts = seed % 3 == 0;
     }
 
     int upTo(int greatest) {
@@ -26,6 +29,7 @@ final class RandomCalls {
 
     /** The next call, looking at the table for arguments that mean something. */
     Call next(GainTables t) {
+        made++;
         if (!pending.isEmpty()) {
             char c = pending.charAt(0);
             pending = pending.substring(1);
@@ -47,7 +51,10 @@ final class RandomCalls {
         int row = upTo(t.axis(1, 0));
         int operator = upTo(2);
         int gain = upTo(2);
-        switch (upTo(36)) {
+        if (!writesTexts && made < 40) {
+            return beginning(t, column, row, gain);
+        }
+        switch (writesTexts ? upTo(37) : upTo(34)) {
             case 0: case 1: case 2: return addBorder(axis);
             case 3: return new Call("removeBorder", axis, border);
             case 4: case 5: return new Call("setReach", axis, border, reach());
@@ -62,21 +69,33 @@ final class RandomCalls {
             case 18: return new Call("sweep", axis, place(t, axis), between(1, onceIn(2) ? 60 : 1000));
             case 19: return new Call("take", upTo(2));
             case 20: return new Call("restore", upTo(2));
-            case 21: return new Call("undo");
-            case 22: return text();
-            case 23: return onceIn(3) ? new Call("clearText") : new Call("load");
-            case 24: return new Call("append", between(1, 255));
-            case 25: return new Call("trail", upTo(21), upTo(7));
-            case 26: return new Call("border", axis, upTo(6), upTo(2));
-            case 27: return new Call("refusal", operator, column, row, gain,
+            case 21: return onceIn(2) ? new Call("undo") : new Call("count", upTo(11));
+            case 22: return new Call("steepest", axis, gain, upTo(1));
+            case 23: return new Call("trail", upTo(21), upTo(7));
+            case 24: return new Call("border", axis, upTo(6), upTo(2));
+            case 25: return new Call("refusal", operator, column, row, gain,
                     value(t, column, row, gain));
-            case 28: case 29: return new Call("effect", place(t, 0), place(t, 1));
-            case 30: case 31: return new Call("valueAt", place(t, 0), place(t, 1), gain);
-            case 32: case 33: return chatter(t, axis);
-            case 34: return calmReach(t, axis, border);
-            case 35: return new Call("steepest", axis, gain, upTo(1));
-            default: return new Call("region", column, row, upTo(3));
+            case 26: case 27: return new Call("effect", place(t, 0), place(t, 1));
+            case 28: case 29: return new Call("valueAt", place(t, 0), place(t, 1), gain);
+            case 30: case 31: return chatter(t, axis);
+            case 32: case 33: return calmReach(t, axis, border);
+            case 34: return new Call("region", column, row, upTo(3));
+            case 35: return new Call("append", between(1, 255));
+            case 36: return text();
+            default: return onceIn(3) ? new Call("clearText") : new Call("load");
         }
+    }
+
+    /** Borders and great gains, so that what follows has something to blend. */
+    private Call beginning(GainTables t, int column, int row, int gain) {
+        if (made == 1) {
+            return new Call("setOperator", 0, 0, 9999);
+        }
+        if (made % 4 == 2) {
+            return new Call("setOperator", 0, 1, 99999);
+        }
+        return made < 16 ? addBorder(upTo(1))
+                : new Call("edit", 0, column, row, gain, upTo(9999));
     }
 
     private int reach() {

@@ -10,6 +10,9 @@ final class SnapshotsTest {
         undo();
         undoOfEachAction();
         undoBringsBackZones();
+        undoBringsBackSnapshots();
+        undoBringsBackTheTrail();
+        placesAreApart();
         check.end();
     }
 
@@ -187,5 +190,55 @@ final class SnapshotsTest {
         check.due("found anew", t.count(4), 0);
         t.undo();
         check.due("brought back, not found anew", t.count(4), 1);
+    }
+
+    private static void undoBringsBackSnapshots() {
+        for (int place = 0; place <= 2; place++) {
+            GainTables t = Look.of("x400 50;x800 5;");
+            t.take(place);
+            Look.read(t, "y400 50;");
+            t.take(place);
+            check.due("undo the second take", t.undo(), 3);
+            check.due("the first snapshot is there", t.restore(place), 3);
+            t.undo();
+            t.undo();
+            check.due("undo the first take", t.undo(), 1);
+            check.due("places", t.count(11), 0);
+            check.due("no snapshot", t.restore(place), Look.ILLEGAL);
+        }
+    }
+
+    private static void undoBringsBackTheTrail() {
+        GainTables t = new GainTables();
+        t.setMargin(2);
+        for (int i = 0; i < 20; i++) {
+            t.move(10 * i, 7);
+        }
+        t.move(1000, 7);
+        t.move(999, 7);
+        check.due("the oldest went", t.trail(19, 0), 10);
+        check.due("ignored", t.count(7), 1);
+        t.undo();
+        check.due("ignored", t.count(7), 0);
+        check.due("moves", t.count(8), 21);
+        t.undo();
+        check.due("moves", t.count(8), 20);
+        for (int back = 0; back < 20; back++) {
+            check.due("the trail is back", t.trail(back, 0), 190 - 10 * back);
+        }
+    }
+
+    private static void placesAreApart() {
+        GainTables t = new GainTables();
+        t.addBorder(0, 100, 0, 0);
+        t.take(0);
+        t.addBorder(0, 200, 0, 0);
+        t.take(1);
+        t.addBorder(0, 300, 0, 0);
+        t.take(2);
+        for (int place = 0; place <= 2; place++) {
+            check.due("place " + place, t.restore(place), place + 2);
+            check.due("borders", t.axis(0, 0), place + 1);
+        }
     }
 }
