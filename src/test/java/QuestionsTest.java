@@ -224,6 +224,9 @@ final class QuestionsTest {
         GainTables both = Look.of("x1 0;x999 0;g0 0 2 5;g2 0 2 5;");
         check.due("of several the smallest", both.steepest(0, 2, 1), 0);
         check.due("difference", both.steepest(0, 2, 0), 5);
+        GainTables rows = Look.of("y1 0;y999 0;g0 0 2 5;g0 2 2 5;");
+        check.due("of several the smallest", rows.steepest(1, 2, 1), 0);
+        check.due("difference", rows.steepest(1, 2, 0), 5);
         GainTables last = Look.of("x999 1~;g1 0 2 6;");
         check.due("the last", last.steepest(0, 2, 1), 998);
         check.due("difference", last.steepest(0, 2, 0), 3);
