@@ -30,7 +30,29 @@ final class LanguageTest {
         imports(code);
         loopsHaveEnds(code);
         methods(code);
+        noCallThrows();
         check.end();
+    }
+
+    /** Rule 7: each method with all that its arguments can be at the ends of their ranges. */
+    private static void noCallThrows() {
+        int[] edges = {Integer.MIN_VALUE, -1, 0, 1, 3, 100, 1000, 9999, Integer.MAX_VALUE};
+        for (java.lang.reflect.Method m : Call.FACE) {
+            GainTables table = Look.rich("x400 50;x700 9~;y300 0;y600 100~;g1 1 2 90;");
+            int calls = (int) Math.pow(edges.length, m.getParameterCount());
+            for (int i = 0; i < calls; i++) {
+                int[] arguments = new int[m.getParameterCount()];
+                int rest = i;
+                for (int a = 0; a < arguments.length; a++) {
+                    arguments[a] = edges[rest % edges.length];
+                    rest /= edges.length;
+                }
+                // Call.on() throws if the method does, which ends this test.
+                new Call(m.getName(), arguments).on(table);
+            }
+            check.holds("accounts behind calls of " + m.getName(), table.account(4)
+                    == table.account(0) + table.account(1) + table.account(2) + table.account(3));
+        }
     }
 
     private static String withoutComments(String source) {
