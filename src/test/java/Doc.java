@@ -8,12 +8,14 @@ import java.util.List;
 import java.util.Map;
 
 /**
- * The terms and promises of ../shared/DOC.md, and which of their words tests have quoted. Left out
- * is what says nothing that a call could show: headings, signatures (FaceTest has them) and the
- * lines that tell under which heading a call stands.
+ * The introduction, the terms and the promises of ../shared/DOC.md, and which of their words tests
+ * have quoted. Left out is what says nothing that a call could show: headings, signatures and the
+ * lines that tell under which heading a call stands (FaceTest has them), and what is not promised.
  */
 final class Doc {
+    static final String INTRODUCTION = "What it is";
     static final String TERMS = "Terms";
+    static final String HEADING_OF_CALLS = "Ahead of the calls ";
     private static final Path PLACE = Path.of("../shared/DOC.md");
     private static final List<String> TITLES = List.of("Axes, borders, regions", "Point, zones",
             "Moves, trail");
@@ -34,7 +36,7 @@ final class Doc {
         sections.forEach((name, text) -> quoted.put(name, new boolean[text.length()]));
     }
 
-    private static List<String> lines() {
+    static List<String> lines() {
         try {
             return Files.readAllLines(PLACE, StandardCharsets.UTF_8);
         } catch (IOException unread) {
@@ -43,18 +45,18 @@ final class Doc {
     }
 
     private static String sectionOf(String heading) {
-        if (heading.equals("## Terms")) {
-            return TERMS;
+        if (heading.equals("## " + TERMS) || heading.equals("## " + INTRODUCTION)) {
+            return heading.substring(3);
         }
         return heading.startsWith("## Promise ") ? heading.substring(3, heading.indexOf(':')) : null;
     }
 
     private static String said(String section, String line) {
         if (line.startsWith("### ") || line.startsWith("```") || TITLES.contains(line)
-                || line.startsWith("Ahead of the calls ")) {
+                || line.startsWith(HEADING_OF_CALLS)) {
             return "";
         }
-        boolean signature = !section.equals(TERMS) && line.startsWith("`");
+        boolean signature = section.startsWith("Promise ") && line.startsWith("`");
         return signature ? line.substring(line.indexOf("`: ") + 3) : line;
     }
 
@@ -75,7 +77,7 @@ final class Doc {
     }
 
     int promises() {
-        return sections.size() - 1;
+        return (int) sections.keySet().stream().filter(s -> s.startsWith("Promise ")).count();
     }
 
     /** The stretches of words that no test has quoted. */

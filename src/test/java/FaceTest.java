@@ -1,22 +1,31 @@
+import java.io.IOException;
 import java.lang.reflect.Constructor;
 import java.lang.reflect.Field;
 import java.lang.reflect.Method;
 import java.lang.reflect.Modifier;
+import java.nio.charset.StandardCharsets;
+import java.nio.file.Files;
+import java.nio.file.Path;
+import java.util.ArrayList;
+import java.util.List;
 import java.util.Set;
 import java.util.TreeSet;
 
-/** The public face of the class: what the document lists, and nothing else. */
+/** The public face of the class: what the document lists, as it lists it, and nothing else. */
 final class FaceTest {
     private static final Check check = new Check("FaceTest");
-    private static final String[] METHODS = {"addBorder 4", "removeBorder 2", "setReach 3",
-        "setOperator 3", "edit 5", "scale 3", "lock 4", "setMargin 1", "move 2", "sweep 3", "take 1",
-        "restore 1", "undo 0", "append 1", "clearText 0", "load 0", "count 1", "axis 2", "border 3",
-        "region 3", "operator 2", "account 1", "gain 2", "trail 2", "refusal 5", "effect 2",
-        "valueAt 3", "chatter 4", "calmReach 3", "steepest 3"};
-    private static final String[] CONSTANTS = {"INVALID_ARGUMENT", "ILLEGAL_STATE",
-        "CAPACITY_EXCEEDED", "NONE"};
+    private static final String INTERFACE_SAYS = " the interface says: ";
+    private static final List<String> FACE = face();
+    private static final List<String> METHODS = new ArrayList<>();
+    private static final List<String> NAMES = new ArrayList<>();
+    private static final List<String> CONSTANTS = new ArrayList<>();
 
-    public static void main(String[] args) {
+    public static void main(String[] args) throws IOException {
+        List<String> source = Files.readAllLines(Path.of("src/main/java/GainTables.java"),
+                StandardCharsets.UTF_8);
+        readFace();
+        lines(source);
+        headings(source);
         methods();
         fields();
         constructors();
@@ -24,16 +33,77 @@ final class FaceTest {
         check.end();
     }
 
+    /** The lines between those of the class, as the document has them. */
+    private static List<String> face() {
+        List<String> all = Doc.lines();
+        int start = all.indexOf("public final class GainTables {");
+        return all.subList(start, all.subList(start, all.size()).indexOf("}") + start);
+    }
+
+    private static void readFace() {
+        for (String line : FACE) {
+            String name = line.replaceAll("(?s)[(=;].*", "").trim().replaceAll(".* ", "");
+            if (line.contains(" static ")) {
+                CONSTANTS.add(name);
+            } else if (line.contains("public int ")) {
+                String parameters = line.substring(line.indexOf('(') + 1, line.indexOf(')'));
+                NAMES.add(name);
+                METHODS.add(name + " "
+                        + (parameters.isEmpty() ? 0 : parameters.split(",").length));
+            }
+        }
+        check.due("methods of the document", METHODS.size(), 30);
+        check.due("constants of the document", CONSTANTS.size(), 4);
+    }
+
+    /** Each line stands in the source once, and in the same order. */
+    private static void lines(List<String> source) {
+        List<String> seen = new ArrayList<>();
+        for (String line : source) {
+            if (line.startsWith("public ") || line.startsWith("    public ")) {
+                seen.add(line.replaceAll("\\) \\{$", ");"));
+            }
+        }
+        check.due("the public lines", String.join("\n", seen), String.join("\n", FACE));
+    }
+
+    /** The headings of the interface, each with the calls that stand under it. */
+    private static void headings(List<String> source) {
+        int headings = 0;
+        for (String line : Doc.lines()) {
+            if (!line.startsWith(Doc.HEADING_OF_CALLS)) {
+                continue;
+            }
+            headings++;
+            int cut = line.indexOf(INTERFACE_SAYS);
+            String heading = line.substring(cut + INTERFACE_SAYS.length(), line.length() - 1);
+            String calls = line.substring(Doc.HEADING_OF_CALLS.length(), cut).replace("`", "");
+            check.due("the calls under " + heading, callsUnder(source, heading), calls);
+        }
+        check.due("headings of the document", headings, 7);
+    }
+
+    private static String callsUnder(List<String> source, String heading) {
+        List<String> calls = new ArrayList<>();
+        int start = source.indexOf("    // " + heading);
+        for (int i = start + 1; start >= 0 && i < source.size(); i++) {
+            String line = source.get(i);
+            if (line.startsWith("    // ----")) {
+                break;
+            }
+            if (line.startsWith("    public int ")) {
+                calls.add(line.substring("    public int ".length(), line.indexOf('(')));
+            }
+        }
+        return String.join(", ", calls);
+    }
+
     private static void methods() {
         Set<String> seen = new TreeSet<>();
-        Set<String> names = new TreeSet<>();
-        for (String method : METHODS) {
-            names.add(method.substring(0, method.indexOf(' ')));
-        }
         for (Method m : GainTables.class.getDeclaredMethods()) {
             if (Modifier.isPrivate(m.getModifiers())) {
                 check.holds("no private method is named " + m.getName(),
-                        !names.contains(m.getName()));
+                        !NAMES.contains(m.getName()));
                 continue;
             }
             check.holds(m.getName() + " is public", Modifier.isPublic(m.getModifiers())
@@ -44,7 +114,7 @@ final class FaceTest {
             }
             seen.add(m.getName() + " " + m.getParameterCount());
         }
-        check.due("the public methods", seen.toString(), new TreeSet<>(Set.of(METHODS)).toString());
+        check.due("the public methods", seen.toString(), new TreeSet<>(METHODS).toString());
     }
 
     private static void fields() {
@@ -57,7 +127,7 @@ final class FaceTest {
                 seen.add(f.getName());
             }
         }
-        check.due("the constants", seen.toString(), new TreeSet<>(Set.of(CONSTANTS)).toString());
+        check.due("the constants", seen.toString(), new TreeSet<>(CONSTANTS).toString());
     }
 
     private static void constructors() {
@@ -75,10 +145,6 @@ final class FaceTest {
     private static void classesInside() {
         Class<?>[] inside = GainTables.class.getDeclaredClasses();
         check.holds("at most twelve classes", inside.length <= 12);
-        Set<String> names = new TreeSet<>();
-        for (String method : METHODS) {
-            names.add(method.substring(0, method.indexOf(' ')));
-        }
         for (Class<?> c : inside) {
             check.holds(c.getName() + " is static", Modifier.isStatic(c.getModifiers()));
             check.holds(c.getName() + " is not public", !Modifier.isPublic(c.getModifiers())
@@ -90,7 +156,7 @@ final class FaceTest {
             check.holds(c.getName() + " has at most twenty fields", fields <= 20);
             for (Method m : c.getDeclaredMethods()) {
                 check.holds("no method inside is named " + m.getName(),
-                        !names.contains(m.getName()));
+                        !NAMES.contains(m.getName()));
             }
         }
     }

@@ -11,8 +11,9 @@ final class RandomRunsTest {
     private static final int CALLS = 512;
 
     public static void main(String[] args) {
-        int runs = args.length > 0 ? Integer.parseInt(args[0]) : 300;
-        for (int run = 1; run <= runs; run++) {
+        int first = args.length > 0 ? Integer.parseInt(args[0]) : 1;
+        int last = args.length > 1 ? Integer.parseInt(args[1]) : Math.max(first, 300);
+        for (int run = first; run <= last; run++) {
             run(run);
         }
         check.end();

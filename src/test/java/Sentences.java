@@ -1,7 +1,7 @@
 /**
  * What the tests of single sentences share. Such a test is a static method without parameters in
  * one of the classes that SentencesTest lists, and it begins with the words of ../shared/DOC.md
- * that it holds to: terms("..") or promise(2, "..").
+ * that it holds to: introduction(".."), terms("..") or promise(2, "..").
  */
 abstract class Sentences {
     static final int INVALID = Look.INVALID;
@@ -14,6 +14,10 @@ abstract class Sentences {
     static final Check CHECK = new Check("SentencesTest");
     static final Doc DOC = new Doc();
     private static String words = "";
+
+    static void introduction(String quote) {
+        quote(Doc.INTRODUCTION, quote);
+    }
 
     static void terms(String quote) {
         quote(Doc.TERMS, quote);

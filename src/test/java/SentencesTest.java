@@ -7,14 +7,14 @@ import java.util.List;
 
 /**
  * Runs the tests of single sentences. Each must quote words that the document says, and all of
- * the words in its terms and promises must be quoted by one.
+ * the words in its introduction, terms and promises must be quoted by one.
  */
 final class SentencesTest {
-    private static final List<Class<?>> CLASSES = List.of(AxesSentences.class,
-            ZonesSentences.class, BlendSentences.class, BorderSentences.class,
-            OperatorSentences.class, MoveSentences.class, SnapshotSentences.class,
-            TextSentences.class, LookingSentences.class, QuestionSentences.class,
-            ErrorSentences.class);
+    private static final List<Class<?>> CLASSES = List.of(IntroductionSentences.class,
+            AxesSentences.class, ZonesSentences.class, BlendSentences.class,
+            BorderSentences.class, OperatorSentences.class, MoveSentences.class,
+            SnapshotSentences.class, TextSentences.class, LookingSentences.class,
+            QuestionSentences.class, ErrorSentences.class);
 
     public static void main(String[] args) throws IllegalAccessException {
         int tests = 0;
